@@ -212,7 +212,7 @@ public final class TestVersions {
         if (paper == null || page < 0 || page >= paper.layout.pageCount || what < 0 || what > 1) {
             return BAD;
         }
-        return what == 0 ? paper.layout.counts.get(page) : paper.layout.fills.get(page);
+        return what == 0 ? paper.layout.pageCounts.get(page) : paper.layout.pageHeights.get(page);
     }
 
     // ---- sheets
@@ -248,7 +248,7 @@ public final class TestVersions {
             return -100 - good;
         }
         typedCount = 0;
-        return hand(version, paper);
+        return handIn(version, paper);
     }
 
     public int guess(int version, int seed, int skill) {
@@ -264,7 +264,7 @@ public final class TestVersions {
             boolean knows = guesses.next(10) < skill;
             draft.set(p, knows ? paper.keys.get(p) : guesses.next(choicesAt(paper, p)));
         }
-        return hand(version, paper);
+        return handIn(version, paper);
     }
 
     public int forget() {
@@ -312,11 +312,11 @@ public final class TestVersions {
 
     public float parting(int question) {
         if (!now.questions.has(question)) {
-            return -2;
+            return -2f;
         }
         int half = now.sheets.count / 2;
         if (half == 0) {
-            return 0;
+            return 0f;
         }
         int right = now.questions.number(question, RIGHT);
         int difference = 0;
@@ -332,7 +332,7 @@ public final class TestVersions {
 
     public float mean() {
         if (now.sheets.count <= 0) {
-            return 0;
+            return 0f;
         }
         int sum = 0;
         for (int s = 0; s < now.sheets.count; s++) {
@@ -466,7 +466,7 @@ public final class TestVersions {
         return c >= 'A' && c < 'A' + choices ? c - 'A' : BAD;
     }
 
-    private int hand(int version, Paper paper) {
+    private int handIn(int version, Paper paper) {
         history.keep(now);
         return now.sheets.append(version, paper, draft);
     }
@@ -803,8 +803,8 @@ public final class TestVersions {
         private final Row heights = new Row(MOST_QUESTIONS);
         private final Row pageOf = new Row(MOST_QUESTIONS);
         private final Row lineOf = new Row(MOST_QUESTIONS);
-        private final Row counts = new Row(MOST_QUESTIONS);
-        private final Row fills = new Row(MOST_QUESTIONS);
+        private final Row pageCounts = new Row(MOST_QUESTIONS);
+        private final Row pageHeights = new Row(MOST_QUESTIONS);
         private int placeCount;
         private int pageCount;
 
@@ -866,8 +866,8 @@ public final class TestVersions {
                 lineOf.set(p, line);
                 line += heights.get(p);
             }
-            counts.set(page, end - start);
-            fills.set(page, line);
+            pageCounts.set(page, end - start);
+            pageHeights.set(page, line);
         }
     }
 

@@ -1,10 +1,28 @@
 /** Compares answers with those that are due and ends a test with exit code 1 if one is not. */
 final class Check {
     private static final int MOST_PRINTED = 40;
+    private static final long MOST_MILLISECONDS = 600_000;
     private static int checks = 0;
     private static int wrong = 0;
 
+    static {
+        Thread guard = new Thread(Check::stopWhatDoesNotEnd);
+        guard.setDaemon(true);
+        guard.start();
+    }
+
     private Check() {
+    }
+
+    /** A call that fails to end must fail its test, not hold it up. */
+    private static void stopWhatDoesNotEnd() {
+        try {
+            Thread.sleep(MOST_MILLISECONDS);
+        } catch (InterruptedException e) {
+            return;
+        }
+        System.out.println("the test did not end in time");
+        Runtime.getRuntime().halt(1);
     }
 
     static void due(String call, long got, long want) {

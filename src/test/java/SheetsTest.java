@@ -19,6 +19,7 @@ public final class SheetsTest {
         guessFollowsItsLots();
         guessRefuses();
         forgetDropsAll();
+        forgottenSheetsComeBackWhole();
         resultsOfFive();
         answersOfFive();
         aboutFive();
@@ -215,6 +216,26 @@ public final class SheetsTest {
         Check.due("22: the forget before", test.undo(), 3);
         Check.due("22: the sheets are back", test.result(4, 1), 4);
         dueAnswers("22: with their answers", test, 1, 0, 1, 3);
+    }
+
+    private static void forgottenSheetsComeBackWhole() {
+        TestVersions test = three();
+        test.version(5);
+        hand(test, 0, "ADB");
+        hand(test, 1, "ACB");
+        long before = test.fingerprint();
+        test.forget();
+        hand(test, 1, "A--");
+        hand(test, 0, "BCA");
+        test.undo();
+        test.undo();
+        Check.due("22: undo of forget() after other sheets", test.undo(), 2);
+        Check.due("31: all numbers are back", test.fingerprint(), before);
+        Check.due("23: its version", test.result(1, 0), 1);
+        Check.due("23: its right answers", test.result(1, 2), 3);
+        Check.due("23: its wrong answers", test.result(0, 3), 3);
+        Check.due("30: its places", test.mistaken(0, 1), 7);
+        dueAnswers("24: its choices", test, 0, 1, 0, 3);
     }
 
     private static void resultsOfFive() {

@@ -24,6 +24,7 @@ public final class VersionsTest {
         alikeCounts();
         neighborsAreNotSamePlaces();
         unlikeIsTheBestOfAll();
+        unlikeOfNearlyTheSame();
         unlikeRefuses();
         Check.end("VersionsTest");
     }
@@ -302,6 +303,38 @@ public final class VersionsTest {
         long before = test.unlike(-100, 40);
         test.guess(0, 0, 5);
         Check.due("14: with sheets and six versions, too", test.unlike(-100, 40), before);
+    }
+
+    /** All keys are 0 but that of the last question, which only some seeds move to another place. */
+    private static TestVersions nearlyAllKept(int... seeds) {
+        TestVersions test = new TestVersions();
+        for (int i = 0; i < 20; i++) {
+            test.add(1, 2, 0, i < 19 ? 3 : 0, 0);
+        }
+        for (int seed : seeds) {
+            test.version(seed);
+        }
+        return test;
+    }
+
+    private static boolean movesTheLast(int seed) {
+        TestVersions test = nearlyAllKept(seed);
+        return test.at(0, test.where(0, 19), 1) == 1;
+    }
+
+    private static void unlikeOfNearlyTheSame() {
+        int plain = 0;
+        while (plain < 1000 && movesTheLast(plain)) {
+            plain++;
+        }
+        int from = plain;
+        int moved = from;
+        while (moved < from + 39 && !movesTheLast(moved)) {
+            moved++;
+        }
+        Check.holds("14: a seed that moves the last question was found", movesTheLast(moved));
+        Check.due("14: 19 of 20 keys alike", nearlyAllKept(plain).unlike(from, 40), moved);
+        Check.due("14: 20 of 20 keys alike", nearlyAllKept(plain).unlike(from, moved - from), from);
     }
 
     private static void unlikeRefuses() {
