@@ -655,8 +655,12 @@ public final class TestVersions {
         }
 
         boolean isFirstOfUnit(int question) {
+            int group = number(question, GROUP);
+            if (group == 0) {
+                return true;
+            }
             for (int q = 0; q < question; q++) {
-                if (together(q, question)) {
+                if (number(q, GROUP) == group) {
                     return false;
                 }
             }

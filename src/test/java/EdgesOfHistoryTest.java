@@ -29,6 +29,7 @@ public final class EdgesOfHistoryTest {
         refusedActsAddNoState();
         bufferIsNotInTheHistory();
         undoRestoresAll();
+        undoBringsForgottenSheetsBack();
         undoAfterOtherActs();
         sheetsLockQuestionsAndVersions();
         sheetsLockNothingElse();
@@ -247,6 +248,33 @@ public final class EdgesOfHistoryTest {
         Check.due("31: all numbers", test.fingerprint(), THREE_WITH_SHEETS);
         Check.due("31: P is 30 again", test.setLines(60), 30);
         Check.due("31: answers by places, too", test.mistaken(1, 0), -2);
+    }
+
+    /** Two sheets, "BCA" and "AD-", are forgotten, and two others of another version take their numbers. */
+    private static void undoBringsForgottenSheetsBack() {
+        TestVersions test = Made.threeWithSheets();
+        test.clear();
+        test.forget();
+        test.version(5);
+        Made.hand(test, 1, "---");
+        Made.hand(test, 1, "BDC");
+        Check.due("23: all wrong in the order 0 2 1", test.result(1, 1), -3);
+        Check.due("31: undo of a sheet", test.undo(), 4);
+        Check.due("31: undo of the other sheet", test.undo(), 3);
+        Check.due("31: undo of version()", test.undo(), 2);
+        Check.due("31: undo of forget()", test.undo(), 1);
+        int[][] due = {{0, 12, 3, 0, 1}, {0, -2, 0, 2, 2}};
+        for (int s = 0; s < 2; s++) {
+            for (int what = 0; what < 5; what++) {
+                Check.due("31: result(" + s + ", " + what + ") is back", test.result(s, what), due[s][what]);
+            }
+        }
+        Check.due("31: the answers are back", test.answer(1, 2), 3);
+        Check.due("31: the answers are back", test.answer(0, 0), 0);
+        Check.due("31: none is none again", test.answer(1, 0), NONE);
+        Check.due("31: the places are back", test.mistaken(0, 0), 12);
+        Check.due("31: the places are back", test.mistaken(1, 0), -2);
+        Check.due("31: all numbers are back", test.fingerprint(), THREE_WITH_SHEETS);
     }
 
     /** What an undone act left behind must not shine through what comes instead. */

@@ -22,6 +22,7 @@ public final class EdgesOfPagesTest {
         noneIsCut();
         pagesAreAsFewAsCanBe();
         greatestHeightIsAsSmallAsCanBe();
+        oneHighQuestionLetsTheOthersBeHigh();
         firstPageHasAsFewAsCanBe();
         secondPageHasAsFewAsCanBe();
         twentyPagesAndOnePage();
@@ -176,6 +177,17 @@ public final class EdgesOfPagesTest {
         duePages("17: 9 1 1 1 on 11", inOrder(11, 9, 1, 1, 1), 1, 3);
         duePages("17: 20 of 9 lines on 60", same(20, 9, 60), 5, 5, 5, 5);
         dueHeights("17: 20 of 9 lines on 60", same(20, 9, 60), 45, 45, 45, 45);
+    }
+
+    /** A question of 9 lines is the greatest height, so 3 times 3 lines may stand on a page, too. */
+    private static void oneHighQuestionLetsTheOthersBeHigh() {
+        duePages("17: 3 3 3 3 9 on 11", inOrder(11, 3, 3, 3, 3, 9), 1, 3, 1);
+        duePages("17: 9 3 3 3 3 on 9", inOrder(9, 9, 3, 3, 3, 3), 1, 1, 3);
+        duePages("17: 3 9 3 3 3 on 9", inOrder(9, 3, 9, 3, 3, 3), 1, 1, 3);
+        TestVersions test = inOrder(11, 3, 3, 3, 3, 9);
+        Check.due("16: three pages", test.pages(0), 3);
+        test.remove(4);
+        duePages("17: without the high one 6 lines do", test, 2, 2);
     }
 
     private static void firstPageHasAsFewAsCanBe() {

@@ -33,6 +33,7 @@ public final class EdgesOfQuestionsTest {
         removeBesideTheRange();
         removeWithSheets();
         removeFirstAndLast();
+        removeTheMiddleOne();
         removeTheOnlyOne();
         removeOfTwenty();
         changeBesideTheRange();
@@ -275,6 +276,18 @@ public final class EdgesOfQuestionsTest {
         Check.due("3: 0 stays", last.question(0, 0), 2);
         Check.due("3: 1 stays", last.question(1, 0), 3);
         Check.due("3: there is no 2 then", last.question(2, 0), BAD);
+    }
+
+    private static void removeTheMiddleOne() {
+        TestVersions test = Made.three();
+        Check.due("3: remove(1) of 3", test.remove(1), 2);
+        int[][] due = {{2, 0, 3, 0, 2}, {4, 2, 15, 0, 4}};
+        for (int q = 0; q < 2; q++) {
+            for (int what = 0; what < 5; what++) {
+                Check.due("3: then question(" + q + ", " + what + ")", test.question(q, what), due[q][what]);
+            }
+        }
+        Check.due("3: there is no 2 then", test.question(2, 4), BAD);
     }
 
     private static void removeTheOnlyOne() {

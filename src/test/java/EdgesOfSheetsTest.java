@@ -40,6 +40,7 @@ public final class EdgesOfSheetsTest {
         guessWithAnySeed();
         guessOfNoQuestions();
         forgetOfNoneAndOfTwenty();
+        forgottenSheetsCountNowhere();
         resultBesideTheRange();
         pointsFromTheLeastToTheMost();
         ranksOfOneOfEqualOnesAndOfTwenty();
@@ -364,6 +365,27 @@ public final class EdgesOfSheetsTest {
         Check.due("2: undone, there is a sheet", one.add(1, 2, 0, 0, 0), TestVersions.STATE);
     }
 
+    /** Of two sheets forgotten, or undone, nothing is left beside or in the one that comes then. */
+    private static void forgottenSheetsCountNowhere() {
+        TestVersions test = handed("ADB", "BCA");
+        test.forget();
+        Check.due("22: the next sheet is number 0", Made.hand(test, 0, "B--"), 0);
+        Check.dueFloat("27: its points alone", test.mean(), 4f);
+        Check.due("23: nobody has more points", test.result(0, 4), 1);
+        Check.due("23: there is no sheet 1", test.result(1, 0), BAD);
+        Check.due("24: no answer from before", test.answer(0, 0), NONE);
+        dueAbout("25: of question 1", test, 1, 1, 0, 0, NONE);
+        dueAbout("25: of question 2", test, 2, 0, 0, 1, NONE);
+        Check.dueFloat("26: h is 0", test.parting(1), 0f);
+        Check.due("29: one sheet alone", test.suspects(), NONE);
+        Check.due("30: its points", test.mistaken(0, 0), 4);
+        test.undo();
+        Check.dueFloat("27: none is left", test.mean(), 0f);
+        test.undo();
+        Check.dueFloat("27: both are back", test.mean(), 4.5f);
+        Check.due("23: with their ranks", test.result(0, 4), 2);
+    }
+
     // ---- promise 23
 
     private static void resultBesideTheRange() {
@@ -530,6 +552,10 @@ public final class EdgesOfSheetsTest {
         }
         Check.dueFloat("26: ten against ten", test.parting(0), -1f);
         Check.dueFloat("26: ten against ten", test.parting(1), 1f);
+        // the place 0 is question 13's with the seed 0: right in a sheet of 1 right and 4 wrong, so of 0 points
+        TestVersions zero = twentyWith("ABBBB---------------", TWENTY_WRONG);
+        Check.due("23: 0 points", zero.result(0, 1), 0);
+        Check.dueFloat("26: right in a sheet of 0 points", zero.parting(13), 1f);
         // points 12 12 7 4 4 0: of question 0 two are right against one, of question 1 three against one
         TestVersions six = handed("---", "--A", "BCA", "B--", "BCB", "BCA");
         Check.dueFloat("26: a third", six.parting(0), 1f / 3f);
@@ -587,7 +613,17 @@ public final class EdgesOfSheetsTest {
         Check.due("28: all the same wrong ones", handed("ADB", "ADB").sameWrong(0, 1), 3);
         Check.due("28: a sheet with itself", handed("ADB").sameWrong(0, 0), 3);
         Check.due("28: a sheet with one wrong with itself", handed("BD-").sameWrong(0, 0), 1);
-        Check.due("28: 20 the same", twentyWith(TWENTY_WRONG, TWENTY_WRONG).sameWrong(1, 0), 20);
+        TestVersions twenty = twentyWith(TWENTY_WRONG, TWENTY_WRONG, TWENTY_WRONG, TWENTY_RIGHT);
+        Check.due("28: 20 the same", twenty.sameWrong(1, 0), 20);
+        Check.due("28: 20 the same in others", twenty.sameWrong(1, 2), 20);
+        Check.due("28: 20 right ones", twenty.sameWrong(2, 3), 0);
+        twenty.forget();
+        twenty.remove(19);
+        twenty.remove(0);
+        for (int s = 0; s < 3; s++) {
+            Made.hand(twenty, 0, TWENTY_WRONG.substring(2));
+        }
+        Check.due("28: 18 the same, two questions are gone", twenty.sameWrong(1, 2), 18);
         TestVersions none = new TestVersions();
         none.version(0);
         none.sheet(0);

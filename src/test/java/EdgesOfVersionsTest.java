@@ -47,6 +47,7 @@ public final class EdgesOfVersionsTest {
         unlikeGoesOnWithOverflow();
         unlikeWithoutVersions();
         unlikeOfTheGreatestOverAllVersions();
+        unlikeOfNineteenAndOfTwenty();
         unlikeWithSixVersionsAndSheets();
         Check.end("EdgesOfVersionsTest");
     }
@@ -407,6 +408,15 @@ public final class EdgesOfVersionsTest {
             Check.due("13: 20 keys", test.alike(0, w, 1), 20);
             Check.due("13: 19 neighbors", test.alike(0, w, 2), 19);
         }
+        TestVersions less = Made.questions(4);
+        less.version(10);
+        // 37311 % 4 = 3, 28214 % 3 = 2, 44013 % 2 = 1: seed 10 leaves them in their order
+        Check.due("13: four are in their order", less.at(0, 3, 0), 3);
+        Check.due("13: three neighbors of four", less.alike(0, 0, 2), 3);
+        less.remove(3);
+        Check.due("13: two neighbors of three", less.alike(0, 0, 2), 2);
+        Check.due("13: three places", less.alike(0, 0, 0), 3);
+        Check.due("13: three keys", less.alike(0, 0, 1), 3);
         // a question directly before another one there is no neighbor here: 0 1 against 1 0
         TestVersions turned = Made.questions(2);
         turned.version(0);
@@ -506,6 +516,23 @@ public final class EdgesOfVersionsTest {
         Check.due("14: keys 0 and 1", oneQuestion(3, 0).unlike(0, 40), 0);
         Check.due("14: five times key 1, then key 0", oneQuestion(0, 1, 2, 0, 1, 3).unlike(4, 40), 4);
         Check.due("14: six times key 1", oneQuestion(0, 1, 2, 0, 1, 2).unlike(0, 40), 3);
+    }
+
+    /**
+     * All choices but those of the last of 20 questions keep their places, so only the 20th lot tells
+     * whether a key is 1: those of the seeds 0 to 4 are 17661, 58334, 33471, 8608, 49281.
+     */
+    private static void unlikeOfNineteenAndOfTwenty() {
+        TestVersions test = Made.questions(20);
+        test.change(19, 2, 0);
+        test.version(0);
+        Check.due("14: 20 alike, then 19", test.unlike(0, 40), 1);
+        Check.due("14: 20 alike alone", test.unlike(0, 1), 0);
+        Check.due("14: of 20 and 19 from 2 on", test.unlike(2, 40), 3);
+        Check.due("14: 19 alike at once", test.unlike(3, 40), 3);
+        // seed 1 has its 1 at place 2, seed 5 at place 10: seed 4 is alike in 20 and 19, seed 5 in 19 and 18
+        test.version(1);
+        Check.due("14: the greatest over two versions", test.unlike(4, 2), 5);
     }
 
     private static void unlikeWithSixVersionsAndSheets() {

@@ -78,8 +78,10 @@ public final class FaceTest {
 
     private static void checkNames(Class<?> inside) {
         for (Method method : inside.getDeclaredMethods()) {
+            Check.holds(method + " takes at most seven parameters", method.getParameterCount() <= 7);
             for (String due : METHODS) {
-                Check.holds(method + " is not named like a public one", !due.contains(" " + method.getName() + "("));
+                Check.holds(method + " is not private and named like a public one",
+                        !Modifier.isPrivate(method.getModifiers()) || !due.contains(" " + method.getName() + "("));
             }
         }
     }
