@@ -164,9 +164,9 @@ public final class TestVersions {
         }
         switch (what) {
             case 0:
-                return first.order.sameAs(second.order, first.count);
+                return first.order.countSame(second.order, first.count);
             case 1:
-                return first.keys.sameAs(second.keys, first.count);
+                return first.keys.countSame(second.keys, first.count);
             case 2:
                 return first.neighborsIn(second);
             default:
@@ -439,7 +439,7 @@ public final class TestVersions {
         for (int v = 0; v < now.versionCount; v++) {
             Paper paper = paperOf(v);
             if (paper != null) {
-                most = Math.max(most, paper.keys.sameAs(candidate.keys, candidate.count));
+                most = Math.max(most, paper.keys.countSame(candidate.keys, candidate.count));
             }
         }
         return most;
@@ -536,7 +536,7 @@ public final class TestVersions {
         return print;
     }
 
-    /** A row of numbers that looks at each index before it uses it. */
+    /** The machine must never throw, so each index is looked at before it is used, and that in here alone. */
     private static final class Row {
         private final int[] cells;
 
@@ -566,10 +566,9 @@ public final class TestVersions {
             System.arraycopy(other.cells, 0, cells, 0, Math.min(other.cells.length, cells.length));
         }
 
-        /** Counts the indexes below many at which both rows hold the same number. */
-        int sameAs(Row other, int many) {
+        int countSame(Row other, int length) {
             int same = 0;
-            for (int i = 0; i < many; i++) {
+            for (int i = 0; i < length; i++) {
                 if (get(i) == other.get(i)) {
                     same++;
                 }
@@ -602,7 +601,7 @@ public final class TestVersions {
         private final Row numbers = new Row(MOST_QUESTIONS * NUMBERS);
         private int count;
 
-        /** Tells whether a number that can be changed may have a value in a question with so many choices. */
+        /** The number of choices is not among these: it cannot be changed. */
         static boolean allows(int what, int value, int choices) {
             switch (what) {
                 case HEIGHT:
@@ -827,7 +826,7 @@ public final class TestVersions {
             }
         }
 
-        /** The fewest pages for the places from start on; no question may be higher than the limit. */
+        /** The fewest pages, as each one takes all that it can hold; no question may be higher than the limit. */
         private int pagesFrom(int start, int limit) {
             int many = 0;
             int room = 0;
@@ -842,7 +841,7 @@ public final class TestVersions {
             return many;
         }
 
-        /** The least height to which all pages can be held without more of them. */
+        /** No question is cut, so the highest one is the least limit; P is one at which the pages are no more. */
         private int lowestLimit(int lines) {
             int limit = 0;
             for (int p = 0; p < placeCount; p++) {
@@ -854,7 +853,7 @@ public final class TestVersions {
             return limit;
         }
 
-        /** Where a page can end at the earliest, so that the rest still goes on the pages left. */
+        /** The pages are as few as can be, so none is empty, and the last one ends with the last question. */
         private int earliestEnd(int start, int pagesLeft, int limit) {
             int end = start + 1;
             while (end < placeCount && pagesFrom(end, limit) > pagesLeft) {
