@@ -536,7 +536,7 @@ public final class TestVersions {
         return print;
     }
 
-    /** The machine must never throw, so each index is looked at before it is used, and that in here alone. */
+    /** The machine must never throw: no array of numbers is used but in here, where each index is looked at. */
     private static final class Row {
         private final int[] cells;
 
